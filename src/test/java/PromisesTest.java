@@ -41,6 +41,7 @@ public final class PromisesTest {
         whereOfABox();
         atARowAndTier();
         countOfTheYard();
+        countOfBoxesInTheWay();
         countOfRows();
         System.out.println("PromisesTest: " + checks + " checks, " + wrong + " wrong");
         if (wrong != 0) {
@@ -798,6 +799,19 @@ public final class PromisesTest {
             int asked = what;
             due("count(" + what + ")", want[what], () -> x.count(asked));
         }
+    }
+
+    private static void countOfBoxesInTheWay() {
+        Yard x = yard(2, 3);
+        int first = plain(x, 5, 9);
+        x.put(plain(x, 5, 8), 1);
+        due("one that does not stand is not in the way", 0, () -> x.count(6));
+        x.put(first, 1);
+        due("the first box is in the way", 1, () -> x.count(6));
+        x.put(plain(x, 5, 9), 1);
+        due("the last box too", 2, () -> x.count(6));
+        x.take(2);
+        due("when it is gone", 1, () -> x.count(6));
     }
 
     private static void countOfRows() {
