@@ -47,6 +47,7 @@ public final class BoundariesTest {
         where();
         at();
         count();
+        refusedCalls();
         System.out.println("BoundariesTest: " + SENTENCES.size() + " sentences, " + checks + " checks, " + wrong
             + " wrong");
         if (wrong != 0) {
@@ -135,7 +136,7 @@ public final class BoundariesTest {
             checks++;
             String after = state();
             if (!after.equals(before)) {
-                tell("the state", after, "due is " + before);
+                tell("the state", after, "due is, unchanged, " + before);
             }
             return this;
         }
@@ -406,8 +407,10 @@ public final class BoundariesTest {
     }
 
     private static void sixtyBoxesAtMost() {
+        sentence(2, "BOXES 0, 1, .. (60 at most)");
+        Scene x = sixtyBoxes();
         sentence(2, "IllegalStateException if there are 60");
-        sixtyBoxes().refused("box " + ANY_BOX, BAD_STATE).refused("box 3 40 1000 9 2", BAD_STATE)
+        x.refused("box " + ANY_BOX, BAD_STATE).refused("box 3 40 1000 9 2", BAD_STATE)
             .refused("where 60 0", BAD_INDEX)
             .given("put 0 0", "take 0").refused("box " + ANY_BOX, BAD_STATE)
             .given("undo", "undo").refused("box " + ANY_BOX, BAD_STATE);
@@ -432,8 +435,9 @@ public final class BoundariesTest {
     }
 
     private static void groundIsTold() {
+        sentence(3, "PLAIN at first, or with a PLUG, or apart for DANGEROUS boxes (0, 1, 2)");
+        Scene x = yard(3, 2).due("count 62", 0).refused("ground 2 3", false).refused("ground 2 -1", false);
         sentence(3, "A row's GROUND: true");
-        Scene x = yard(3, 2);
         for (int ground : new int[] {0, 1, 2, 2, 1, 0}) {
             x.due("ground 2 " + ground, true).due("count 62", ground).due("count 61", 0).due("count 60", 0);
         }
@@ -473,6 +477,9 @@ public final class BoundariesTest {
     }
 
     private static void reservedRow() {
+        sentence(4, "It may be RESERVED for a SHIP (1 .. 9)");
+        yard(1, 1).due("count 80", 0).due("reserve 0 1", true).due("reserve 0 9", true).refused("reserve 0 10", false)
+            .refused("reserve 0 -1", false).due("count 80", 9);
         sentence(4, "A row is RESERVED for a ship, or (0) for none: true");
         Scene x = yard(3, 2);
         for (int ship : new int[] {1, 9, 5, 0, 0}) {
@@ -562,7 +569,7 @@ public final class BoundariesTest {
     }
 
     private static void noRuleIsBroken(Scene x) {
-        sentence(5, "A BOX MAY STAND on a row (on top of it) if no RULE is broken");
+        sentence(5, "A box is put on a row: 1");
         x.due("put 3 0", 1).due("at 0 2", 3).given("undo");
         sentence(9, "THE SCORE of a box on a row on which it may stand");
         x.due("score 3 0", 40 + 12 + 30).due("score 3 1", 40 - 15 + 12);
@@ -621,6 +628,10 @@ public final class BoundariesTest {
     }
 
     private static void rule3() {
+        sentence(5, "TIERS high at most");
+        yard(1, 1).stand(0, onDay(1)).given("box " + onDay(1)).refused("put 1 0", -3).due("count 20", 1);
+        yard(1, 2).stand(0, onDay(1)).given("box " + onDay(1)).due("put 1 0", 1).due("count 20", 2);
+
         sentence(5, "3 it is full");
         for (int tiers = 1; tiers <= 8; tiers++) {
             Scene x = yard(2, tiers).given("box " + onDay(1));
@@ -1165,9 +1176,10 @@ public final class BoundariesTest {
     }
 
     private static void undoOfTheLatestNotUndone() {
-        sentence(11, "UNDONE is the latest move that was not undone");
+        sentence(11, "The latest move is UNDONE: its box");
         yard(1, 3).stand(0, onDays(1, 1)).due("undo", 1).due("undo", 0).due("undo", -1);
         yard(1, 3).stand(0, onDays(1, 1)).due("undo", 1).stand(0, onDays(1)).due("undo", 2).due("undo", 0);
+        sentence(11, "UNDONE is the latest move that was not undone");
         Walk walk = new Walk();
         walk.moves(101);
         walk.undos(30);
@@ -1323,11 +1335,19 @@ public final class BoundariesTest {
     // ---- Promise 14: count
 
     private static void count() {
+        countOfTheYard();
         countOfBoxesAndMoves();
         countOfBoxesInTheWay();
         countOfMovesKept();
         countOfRows();
         countOfNothing();
+    }
+
+    private static void countOfTheYard() {
+        sentence(14, "what 0: rows, 1: tiers, 2: what a ground bears");
+        yard(1, 1).due("count 0", 1).due("count 1", 1).due("count 2", 400);
+        new Scene(16, 8, 1).due("count 0", 16).due("count 1", 8).due("count 2", 1);
+        new Scene(5, 6, 7).due("count 0", 5).due("count 1", 6).due("count 2", 7);
     }
 
     private static void countOfBoxesAndMoves() {
@@ -1365,7 +1385,8 @@ public final class BoundariesTest {
     }
 
     private static void countOfRows() {
-        sentence(14, "of row r: 20 + r: boxes, 40 + r: weight, 60 + r: GROUND, 80 + r: the ship");
+        sentence(14, "of row r: 20 + r: boxes, 40 + r: weight, 60 + r: GROUND, "
+            + "80 + r: the ship for which it is RESERVED (0 none)");
         Scene x = yard(16, 8).given("ground 15 1", "ground 0 2", "reserve 0 9").stand(15, "2 40 1 7 1", "2 1 1 7 0");
         x.given("reserve 15 7").stand(14, "3 5 1 1 0");
         int[][] wants = {{20, 0}, {40, 0}, {60, 2}, {80, 9}, {21, 0}, {41, 0}, {61, 0}, {81, 0}, {34, 1}, {54, 5},
@@ -1391,5 +1412,46 @@ public final class BoundariesTest {
                 some.due("count " + (span + 19), -1);
             }
         }
+    }
+
+    // ---- All promises: what throws or is refused
+
+    private static void refusedCalls() {
+        refusedChangesNothing(1);
+        refusedChangesNothing(60);
+    }
+
+    /** Box 1 is in the way but can't be moved, box 3 may stand nowhere; box 4 comes and goes so many times. */
+    private static Scene yardThatRefuses(int times) {
+        Scene x = new Scene(3, 2, 40).given("ground 1 1", "reserve 1 2", "ground 2 2");
+        x.stand(0, plain(20, 1), plain(20, 9)).stand(1, "1 30 5 2 1").given("box " + plain(20, 5), "box 2 9 5 1 2");
+        for (int i = 0; i < times; i++) {
+            x.given("put 4 2", "take 4");
+        }
+        return x.given("undo");
+    }
+
+    private static void refusedChangesNothing(int times) {
+        Scene x = yardThatRefuses(times);
+        String[][] calls = {
+            {"2", "box 0 1 1 1 0", BAD_ARGUMENT}, {"2", "box 1 1 1 1 3", BAD_ARGUMENT},
+            {"3", "ground 0 1", "false"}, {"3", "ground 3 0", "false"}, {"3", "ground 2 3", "false"},
+            {"4", "reserve 0 2", "false"}, {"4", "reserve 3 0", "false"}, {"4", "reserve 1 10", "false"},
+            {"5", "put 0 1", "-1"}, {"5", "put 3 1", "-2"}, {"5", "put 3 0", "-3"}, {"5", "put 3 2", "-5"},
+            {"5", "put 5 0", BAD_INDEX}, {"5", "put 3 3", BAD_INDEX}, {"5", "put -1 0", BAD_INDEX},
+            {"6", "take 0", "0"}, {"6", "take 3", "0"}, {"6", "take 5", BAD_INDEX}, {"6", "take -1", BAD_INDEX},
+            {"7", "shift 0 1", "0"}, {"7", "shift 3 0", "0"}, {"7", "shift 1 0", "-1"}, {"7", "shift 1 1", "-2"},
+            {"7", "shift 1 2", "-5"}, {"7", "shift 5 0", BAD_INDEX}, {"7", "shift 1 3", BAD_INDEX},
+            {"8", "choose 1", "-1"}, {"8", "choose 3", "-1"}, {"8", "choose 5", BAD_INDEX},
+            {"9", "score 1 0", BAD_STATE}, {"9", "score 3 0", BAD_STATE}, {"9", "score 5 0", BAD_INDEX},
+            {"10", "night -1", BAD_ARGUMENT}, {"10", "night 51", BAD_ARGUMENT}, {"10", "night 50", "0"},
+            {"12", "where 0 9", BAD_INDEX}, {"12", "where 5 0", BAD_INDEX}, {"13", "at 3 0", BAD_INDEX},
+            {"13", "at 0 2", BAD_INDEX}, {"14", "count 8", "-1"}, {"14", "count 23", "-1"}};
+        for (String[] call : calls) {
+            sentence(Integer.parseInt(call[0]), "What throws or is refused changes nothing");
+            x.refused(call[1], call[2]);
+        }
+        sentence(11, "What throws or is refused changes nothing");
+        x.due("undo", 4).due("where 4 0", -1);
     }
 }
