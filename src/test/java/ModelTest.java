@@ -14,24 +14,30 @@ public final class ModelTest {
     /** With those that compare all in the end, below the 512 for which an object is promised. */
     private static final int CALLS = 360;
     private static final int MOST_WRONG = 20;
+    /** A busy run has fewer rows to compare in the end; it tells its boxes first. */
+    private static final int BUSY_CALLS = 440;
+    private static final int BUSY_START = 40;
+    private static final int KEPT = 100;
 
     private static int wrong = 0;
 
     public static void main(String[] args) {
         long calls = 0;
         int nightMoves = 0;
+        int runsBeyondKept = 0;
         for (int run = 0; run < RUNS && wrong < MOST_WRONG; run++) {
             Pair pair = new Pair(run);
-            while (pair.calls < CALLS && !pair.differs) {
+            while (pair.calls < (pair.busy ? BUSY_CALLS : CALLS) && !pair.differs) {
                 pair.anyCall();
             }
             pair.compareAll();
             calls += pair.calls;
             nightMoves += pair.nightMoves;
+            runsBeyondKept += pair.beyondKept ? 1 : 0;
         }
         System.out.println("ModelTest: " + RUNS + " runs, " + calls + " calls, " + nightMoves
-            + " moves by night, " + wrong + " wrong");
-        if (wrong != 0 || nightMoves == 0) {
+            + " moves by night, " + runsBeyondKept + " runs that undo all that is kept, " + wrong + " wrong");
+        if (wrong != 0 || nightMoves == 0 || runsBeyondKept == 0) {
             System.exit(1);
         }
     }
@@ -47,14 +53,19 @@ public final class ModelTest {
         final int weights;
         final int ships;
         final boolean manyKinds;
+        /** Moves more often than is kept, then undoes till nothing is kept, mostly. */
+        final boolean busy;
+        boolean undoing = false;
         boolean differs = false;
+        boolean beyondKept = false;
         int calls = 0;
         int nightMoves = 0;
 
         Pair(int run) {
             this.run = run;
             this.random = new Random(run);
-            this.rows = run % 50 == 0 ? 16 : 1 + random.nextInt(6);
+            this.busy = run % 6 == 1;
+            this.rows = run % 50 == 0 ? 16 : busy ? 3 + random.nextInt(4) : 1 + random.nextInt(6);
             int tiers = 1 + random.nextInt(8);
             int bears = run % 3 == 0 ? 20 + random.nextInt(100) : 400;
             this.days = 2 + random.nextInt(10);
@@ -89,6 +100,10 @@ public final class ModelTest {
         }
 
         void anyCall() {
+            if (busy && calls > BUSY_START && random.nextInt(10) < 9) {
+                busyCall();
+                return;
+            }
             int which = random.nextInt(100);
             int box = anyBox();
             int row = anyRow();
@@ -114,9 +129,40 @@ public final class ModelTest {
             } else if (which < 85) {
                 anyNight();
             } else if (which < 90) {
-                same("undo()", () -> real.undo(), () -> model.undo());
+                anyUndo();
             } else {
                 anyQuestion(box, row);
+            }
+        }
+
+        void busyCall() {
+            if (undoing) {
+                undoing = random.nextInt(model.past.isEmpty() ? 4 : 150) != 0;
+                anyUndo();
+            } else {
+                undoing = model.past.size() == KEPT && random.nextInt(12) == 0;
+                anyMoveOfATopBox();
+            }
+        }
+
+        void anyUndo() {
+            same("undo()", () -> real.undo(), () -> model.undo());
+            beyondKept |= model.past.isEmpty() && model.made > 0;
+        }
+
+        void anyMoveOfATopBox() {
+            int row = random.nextInt(rows);
+            List<Box> there = model.rows.get(random.nextInt(rows));
+            int box = there.isEmpty() ? anyBox() : there.get(there.size() - 1).number;
+            int which = random.nextInt(10);
+            if (there.isEmpty()) {
+                same("put(" + box + ", " + row + ")", () -> real.put(box, row), () -> model.put(box, row));
+            } else if (which < 7) {
+                same("shift(" + box + ", " + row + ")", () -> real.shift(box, row), () -> model.shift(box, row));
+            } else if (which < 9) {
+                same("take(" + box + ")", () -> real.take(box), () -> model.take(box));
+            } else {
+                anyNight();
             }
         }
 
@@ -284,7 +330,7 @@ public final class ModelTest {
                 copy.add(new ArrayList<>(boxesOfRow));
             }
             past.addLast(new Snapshot(copy, b.number));
-            if (past.size() > 100) {
+            if (past.size() > KEPT) {
                 past.removeFirst();
             }
             made++;
